@@ -198,6 +198,7 @@ final class CachesTest {
         checks.same("4: written", x.value(3, 0), 0);
         checks.same("4: a hit on MODIFIED", x.write(3, 0, 9999), true);
         checks.same("4: the value of the hit", x.value(3, 0), 9999);
+        checks.same("4: the state after the hit", x.state(3, 0), 3);
         checks.same("4: a hit sends nothing", x.messageCount(), 0);
         Checks.readThrough(x, 2, 0);
         checks.same("4: OWNED needs a request", x.write(3, 0, 1), false);

@@ -19,6 +19,7 @@ final class MessagesTest {
         promise22VictimsServeForwards();
         promise22LatePut();
         promise22InvalidateOfAVanishedLine();
+        promise22InvalidateLeavesTheBuffer();
         promise23Settle();
         promise23Refusals();
         checks.end();
@@ -116,6 +117,7 @@ final class MessagesTest {
         checks.same("22: INVALIDATE of 0", Checks.message(x, 0), List.of(10, 6, -1, 0));
         checks.same("22: INVALIDATE of 2", Checks.message(x, 1), List.of(10, 6, -1, 2));
         checks.same("22: INVALIDATE of 3", Checks.message(x, 2), List.of(10, 6, -1, 3));
+        checks.same("22: DATA for the writer", Checks.message(x, 3), List.of(5, 6, -1, 1));
         x.deliver(1);
         checks.same("22: it is removed", x.state(2, 6), 0);
         checks.same("22: INVALIDATE_DONE", Checks.message(x, 3), List.of(7, 6, 2, 1));
@@ -149,9 +151,24 @@ final class MessagesTest {
         x.deliver(0);
         checks.same("22: DATA completes it", x.state(0, 6), 3);
         x.settle(10);
+        theNextRequestCountsAnew();
+    }
+
+    private static void theNextRequestCountsAnew() {
+        CacheDirectory x = new CacheDirectory();
+        Checks.readThrough(x, 1, 6);
+        Checks.writeThrough(x, 0, 6, 5);
+        Checks.readThrough(x, 2, 7);
+        Checks.readThrough(x, 3, 7);
         x.write(0, 7, 6);
+        x.deliver(0);
+        x.deliver(0);
+        x.deliver(2);
+        checks.same("22: one of the next two", x.openLine(0), 7);
+        Checks.deliverKind(x, 5);
+        checks.same("22: one of two, answered", x.openLine(0), 7);
         x.settle(10);
-        checks.same("22: the next request starts anew", x.value(0, 7), 6);
+        checks.same("22: the next is completed", x.value(0, 7), 6);
     }
 
     private static void promise22WritingOverAnOwner() {
@@ -287,6 +304,19 @@ final class MessagesTest {
         x.settle(50);
         checks.same("22: then it reads what was written", x.latestRead(0), 9);
         checks.same("22: from the writer", x.state(1, 6), 2);
+    }
+
+    private static void promise22InvalidateLeavesTheBuffer() {
+        CacheDirectory x = new CacheDirectory();
+        x.setRoom(0, 4, 1);
+        Checks.writeThrough(x, 0, 1, 5);
+        Checks.writeThrough(x, 0, 2, 6);
+        Checks.readThrough(x, 0, 6);
+        Checks.writeThrough(x, 1, 6, 9);
+        checks.same("22: one victim has room", x.evict(0, 1), 3);
+        checks.refuses(x, "22: an INVALIDATE made no room for two", Checks.BAD_STATE, () -> x.evict(0, 2));
+        x.settle(10);
+        checks.same("22: PUT_DONE did", x.evict(0, 2), 3);
     }
 
     private static void promise23Settle() {
