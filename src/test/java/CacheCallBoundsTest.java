@@ -128,7 +128,8 @@ final class CacheCallBoundsTest {
                 "read(0, 1) = -1; openLine(0) = 1; kinds() = 1; settle(9); read(0, 1) = 0; openLine(0) = -1; "
                         + "kinds() = none; misses(0) = 1; hits(0) = 1",
                 "write(0, 1, 9999); settle(9); read(0, 1) = 9999; state(0, 1) = 3; kinds() = none",
-                "write(0, 1, 8); settle(9); read(1, 1) = -1; settle(9); read(0, 1) = 8; read(1, 1) = 8; state(0, 1) = 2",
+                "write(0, 1, 8); settle(9); read(1, 1) = -1; settle(9); read(0, 1) = 8; read(1, 1) = 8; "
+                        + "state(0, 1) = 2",
                 "write(0, 1, 8); settle(9); evict(0, 1); settle(9); read(0, 1) = -1; settle(9); read(0, 1) = 8",
                 "read(0, 1); settle(9); write(1, 1, 8); settle(9); read(0, 1) = -1; settle(9); read(0, 1) = 8");
     }
@@ -258,7 +259,8 @@ final class CacheCallBoundsTest {
                 "write(0, 1, 5); settle(9); evict(0, 1); state(0, 1) = 0; victimValue(0, 1) = 5; message(0) = 3 1 0 -1",
                 "write(0, 1, 5); settle(9); read(1, 1); settle(9); evict(0, 1); state(0, 1) = 0; "
                         + "victimValue(0, 1) = 5; message(0) = 3 1 0 -1; state(1, 1) = 1",
-                "read(0, 1); settle(9); read(0, 2); settle(9); evict(0, 2); lines(0) = 1; read(0, 3) = -1; lines(0) = 1");
+                "read(0, 1); settle(9); read(0, 2); settle(9); evict(0, 2); lines(0) = 1; read(0, 3) = -1; "
+                        + "lines(0) = 1");
     }
 
     private static void promise5Returns() {
@@ -285,7 +287,8 @@ final class CacheCallBoundsTest {
     private static void promise5ARequestForThisLineIsOpen() {
         String refused = "evict(0, 1) = throws IllegalStateException;";
         runs.hold("Throws IllegalStateException if a request of this cache for this line is open",
-                "read(0, 1); settle(9); write(0, 1, 5);" + refused + "deliver(0);" + refused + "deliver(0); evict(0, 1) = 3",
+                "read(0, 1); settle(9); write(0, 1, 5);" + refused + "deliver(0);" + refused + "deliver(0); "
+                        + "evict(0, 1) = 3",
                 "write(0, 1, 5); settle(9); read(1, 1); settle(9); write(0, 1, 6);" + refused + "settle(3);" + refused
                         + "settle(1); evict(0, 1) = 3",
                 "read(0, 1); settle(9); read(0, 2); evict(0, 1) = 1",
@@ -296,7 +299,8 @@ final class CacheCallBoundsTest {
         String three = "write(0, 1, 5); settle(9); write(0, 2, 6); settle(9); write(0, 3, 7); settle(9);";
         runs.hold("Throws IllegalStateException if the line would have to go to the victim buffer, which has no room",
                 "setRoom(0, 3, 0);" + three + "evict(0, 1) = throws IllegalStateException",
-                "setRoom(0, 3, 1);" + three + "evict(0, 1) = 3; evict(0, 2) = throws IllegalStateException; deliver(0); "
+                "setRoom(0, 3, 1);" + three + "evict(0, 1) = 3; evict(0, 2) = throws IllegalStateException; "
+                        + "deliver(0); "
                         + "evict(0, 2) = throws IllegalStateException; deliver(0); evict(0, 2) = 3",
                 "setRoom(0, 3, 2);" + three + "evict(0, 1) = 3; evict(0, 2) = 3; evict(0, 3) = throws "
                         + "IllegalStateException; settle(2); evict(0, 3) = throws IllegalStateException; deliver(1); "
@@ -304,7 +308,8 @@ final class CacheCallBoundsTest {
                 "setRoom(0, 3, 0);" + three + "read(1, 2); settle(9); state(0, 2) = 2; "
                         + "evict(0, 2) = throws IllegalStateException",
                 "setRoom(0, 3, 0); read(0, 1); settle(9); evict(0, 1) = 1",
-                "setRoom(0, 3, 1);" + "read(0, 4); settle(9); write(0, 1, 5); settle(9); evict(0, 1) = 3; evict(0, 4) = 1");
+                "setRoom(0, 3, 1);" + "read(0, 4); settle(9); write(0, 1, 5); settle(9); evict(0, 1) = 3; "
+                        + "evict(0, 4) = 1");
     }
 
     private static void promise6State() {
@@ -349,7 +354,8 @@ final class CacheCallBoundsTest {
     private static void promise9OpenLine() {
         runs.hold("Returns the line of its open request; -1 if none is open.",
                 inEachCache("openLine(CACHE) = -1"),
-                "read(0, 0); openLine(0) = 0; openLine(1) = -1; deliver(0); openLine(0) = 0; deliver(0); openLine(0) = -1",
+                "read(0, 0); openLine(0) = 0; openLine(1) = -1; deliver(0); openLine(0) = 0; deliver(0); "
+                        + "openLine(0) = -1",
                 "write(3, 15, 5); openLine(3) = 15; deliver(0); openLine(3) = 15; deliver(0); openLine(3) = -1",
                 "read(0, 0); settle(9); read(0, 0); openLine(0) = -1; write(0, 0, 1); openLine(0) = 0",
                 "read(0, 0); read(0, 1) = throws IllegalStateException; openLine(0) = 0");

@@ -1,6 +1,6 @@
 import java.math.BigInteger;
 
-/** The boundary cases of promises 24 to 29, a test for each sentence. CountsTest forces lines out of order. */
+/** The boundary cases of promises 24 to 29, a test for each sentence. ForcedStatesTest has more of promise 28. */
 final class CountBoundsTest {
     private static final String NO_INDEX = "IndexOutOfBoundsException";
     private static final String NO_CACHE = "Throws IndexOutOfBoundsException if there is no such cache";
@@ -16,7 +16,9 @@ final class CountBoundsTest {
         promise27LateWritebacks();
         promise28IsInOrder();
         promise29StartsWith47();
-        promise29NumbersInTheirOrder();
+        promise29EachLine();
+        promise29EachCache();
+        promise29EachMessage();
         promise29WhatIsNotThere();
         promise29WrapsAround();
         checks.end();
@@ -42,13 +44,18 @@ final class CountBoundsTest {
                         + "read(1, 1); settle(9); write(0, 1, 7); misses(0) = 3; misses(1) = 1",
                 "read(3, 1); read(3, 2) = throws IllegalStateException; read(3, 16) = throws "
                         + "IndexOutOfBoundsException; write(3, 2, -1) = throws IllegalArgumentException; misses(3) = 1",
-                "setRoom(3, 1, 0); write(3, 1, 5); settle(9); read(3, 2) = throws IllegalStateException; misses(3) = 1");
+                "setRoom(3, 1, 0); write(3, 1, 5); settle(9); read(3, 2) = throws IllegalStateException; "
+                        + "misses(3) = 1");
         runs.bound(NO_CACHE, "", "misses(?) = 0", 0, 3, NO_INDEX);
     }
 
     /** PUT of cache 0 for line 5 is on the way, and cache 1 is the owner of the line, or has been. */
     private static final String OVERTAKEN = "write(0, 5, 1); settle(9); evict(0, 5); write(1, 5, 2); deliver(1); "
             + "deliver(1); deliver(1); deliver(1); kinds() = 3;";
+
+    private static String overtakenFor(int line) {
+        return OVERTAKEN.replace(", 5", ", " + line);
+    }
 
     private static void promise26Writebacks() {
         runs.hold("Returns how many PUT were processed whose sender was the owner.",
@@ -70,8 +77,8 @@ final class CountBoundsTest {
                         + "lateWritebacks() = 1; writebacks() = 1",
                 "write(0, 5, 1); settle(9); evict(0, 5); write(1, 5, 2); deliver(1); deliver(0); queued(5) = 1; "
                         + "lateWritebacks() = 0; settle(9); lateWritebacks() = 1",
-                OVERTAKEN + "settle(9); lateWritebacks() = 1;" + OVERTAKEN.replace("5, ", "15, ")
-                        .replace(", 5", ", 15") + "settle(9); lateWritebacks() = 2; writebacks() = 0");
+                overtakenFor(0) + "settle(9); lateWritebacks() = 1;" + overtakenFor(15) + "settle(9); "
+                        + "lateWritebacks() = 2; writebacks() = 0");
     }
 
     private static void promise28IsInOrder() {
@@ -92,26 +99,51 @@ final class CountBoundsTest {
                 digestOf(new CacheDirectory()));
     }
 
-    private static void promise29NumbersInTheirOrder() {
-        String sentence = "\"for each line ..., for each cache ..., for each message on the way ...\": ";
+    private static void promise29EachLine() {
+        String sentence = "\"for each line its value in the memory, its owner, its sharers, 1 if the directory is busy "
+                + "with it, else 0, the number of messages in its queue, and for each cache the state of the line, its "
+                + "value, and its value in the victim buffer\": ";
         CacheDirectory x = new CacheDirectory();
-        String[] steps = {"a write", "its GET_MODIFIED", "its DATA", "its DONE"};
         x.write(0, 0, 4);
-        for (String step : steps) {
-            checks.same(sentence + "after " + step, x.digest(), digestOf(x));
-            x.settle(1);
-        }
         x.write(3, 15, 9999);
-        x.settle(9);
+        x.settle(1000);
         checks.same(sentence + "the first and the last line and cache", x.digest(), digestOf(x));
         x.read(1, 15);
         x.read(2, 15);
         x.settle(2);
-        checks.same(sentence + "one waits, and two requests are open", x.digest(), digestOf(x));
+        checks.same(sentence + "a busy line, one message waits", x.digest(), digestOf(x));
         x.evict(3, 15);
-        checks.same(sentence + "a victim, and several messages", x.digest(), digestOf(x));
+        checks.same(sentence + "a victim", x.digest(), digestOf(x));
         x.settle(1000);
         checks.same(sentence + "a memory, sharers and no owner", x.digest(), digestOf(x));
+    }
+
+    private static void promise29EachCache() {
+        String sentence = "\"for each cache the line of its open request\": ";
+        for (int cache = 0; cache < 4; cache++) {
+            for (int line : new int[] {0, 15}) {
+                CacheDirectory x = new CacheDirectory();
+                x.read(cache, line);
+                checks.same(sentence + cache + ", " + line, x.digest(), digestOf(x));
+            }
+        }
+    }
+
+    private static void promise29EachMessage() {
+        String sentence = "\"for each message on the way its kind, line, sender and receiver\": ";
+        CacheDirectory x = new CacheDirectory();
+        x.write(0, 0, 4);
+        for (String step : new String[] {"GET_MODIFIED", "DATA", "DONE", "none"}) {
+            checks.same(sentence + step, x.digest(), digestOf(x));
+            x.settle(1);
+        }
+        x.read(1, 0);
+        x.write(2, 15, 3);
+        x.read(3, 0);
+        for (int i = 0; x.messageCount() > 0 && i < 20; i++) {
+            checks.same(sentence + x.messageCount() + " messages", x.digest(), digestOf(x));
+            x.deliver(x.messageCount() - 1);
+        }
     }
 
     private static void promise29WhatIsNotThere() {

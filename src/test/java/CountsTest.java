@@ -1,15 +1,12 @@
-import java.lang.reflect.Field;
-
 /** Promises 24 to 29: the counts, the order of a line, and the checksum. */
 final class CountsTest {
     private static final Checks checks = new Checks("CountsTest");
 
-    public static void main(String[] args) throws ReflectiveOperationException {
+    public static void main(String[] args) {
         promise24Hits();
         promise25Misses();
         promises26And27Writebacks();
         promise28IsInOrder();
-        promise28OutOfOrder();
         promise29DigestOfANewObject();
         promise29DigestInARace();
         checks.end();
@@ -123,40 +120,6 @@ final class CountsTest {
             checks.same("28: while the next one writes", x.isInOrder(15), true);
         }
         checks.same("28: other lines", x.isInOrder(0), true);
-    }
-
-    /** No run of calls brings a line out of order, so these states are forced upon the object. */
-    private static void promise28OutOfOrder() throws ReflectiveOperationException {
-        checks.same("28: MODIFIED beside SHARED", isInOrderWith(new int[] {1, 0, 0, 3}, 5, 5), false);
-        checks.same("28: MODIFIED beside OWNED", isInOrderWith(new int[] {3, 2, 0, 0}, 5, 5), false);
-        checks.same("28: MODIFIED twice", isInOrderWith(new int[] {3, 3, 0, 0}, 5, 5), false);
-        checks.same("28: OWNED twice", isInOrderWith(new int[] {0, 2, 2, 0}, 5, 5), false);
-        checks.same("28: two values", isInOrderWith(new int[] {0, 0, 1, 1}, 5, 6), false);
-        checks.same("28: two values, one 0", isInOrderWith(new int[] {1, 0, 0, 1}, 0, 6), false);
-        checks.same("28: OWNED of another value", isInOrderWith(new int[] {2, 1, 1, 1}, 6, 5), false);
-        checks.same("28: OWNED of the same value", isInOrderWith(new int[] {1, 1, 1, 2}, 5, 5), true);
-    }
-
-    private static boolean isInOrderWith(int[] states, int firstValue, int otherValues)
-            throws ReflectiveOperationException {
-        CacheDirectory x = new CacheDirectory();
-        Object[] caches = (Object[]) inside(x, "caches");
-        int value = firstValue;
-        for (int cache = 0; cache < 4; cache++) {
-            if (states[cache] != 0) {
-                ((int[]) inside(caches[cache], "states"))[15] = states[cache];
-                ((int[]) inside(caches[cache], "values"))[15] = value;
-                value = otherValues;
-            }
-        }
-        checks.same("28: another line is in order", x.isInOrder(14), true);
-        return x.isInOrder(15);
-    }
-
-    private static Object inside(Object whole, String part) throws ReflectiveOperationException {
-        Field field = whole.getClass().getDeclaredField(part);
-        field.setAccessible(true);
-        return field.get(whole);
     }
 
     private static void promise29DigestOfANewObject() {

@@ -96,7 +96,8 @@ final class DirectoryCallBoundsTest {
     private static void promise19MessageLine() {
         runs.hold("Returns its line.",
                 "read(0, 0); write(3, 15, 5); messageLine(0) = 0; messageLine(1) = 15; deliver(0); "
-                        + "messageLine(0) = 15; messageLine(1) = 0; deliver(0); messageLine(0) = 0; messageLine(1) = 15; "
+                        + "messageLine(0) = 15; messageLine(1) = 0; deliver(0); messageLine(0) = 0; "
+                        + "messageLine(1) = 15; "
                         + "settle(2); messageKind(0) = 4; messageLine(0) = 0; messageLine(1) = 15",
                 "write(0, 15, 5); settle(9); read(1, 15); deliver(0); messageLine(0) = 15; settle(9); write(0, 15, 6); "
                         + "deliver(0); messageLine(0) = 15; messageLine(1) = 15; deliver(0); messageLine(1) = 15; "
@@ -158,9 +159,11 @@ final class DirectoryCallBoundsTest {
         runs.hold("Delivers the message with the index 0 again and again, until no message is on the way, or some "
                 + "number has been delivered.",
                 "read(0, 1); read(1, 2); settle(0); kinds() = 1 1; settle(1); kinds() = 1 5; settle(1); kinds() = 5 5; "
-                        + "settle(1); kinds() = 5 4; settle(1); kinds() = 4 4; settle(1); kinds() = 4; isBusy(1) = false; "
+                        + "settle(1); kinds() = 5 4; settle(1); kinds() = 4 4; settle(1); kinds() = 4; "
+                        + "isBusy(1) = false; "
                         + "isBusy(2) = true; settle(1); kinds() = none; isBusy(2) = false",
-                "read(0, 1); read(1, 1); settle(1000); sharers(1) = 3; state(0, 1) = 1; state(1, 1) = 1; kinds() = none");
+                "read(0, 1); read(1, 1); settle(1000); sharers(1) = 3; state(0, 1) = 1; state(1, 1) = 1; "
+                        + "kinds() = none");
     }
 
     private static void promise23Returns() {

@@ -29,6 +29,7 @@ final class MessageBoundsTest {
         forwardModified();
         forwardsToAVictim();
         invalidate();
+        invalidateLeavesTheVictimBuffer();
         putDone();
         runs.end();
     }
@@ -87,7 +88,8 @@ final class MessageBoundsTest {
                 "read(0, 4); deliver(0); deliver(0); write(1, 4, 7); deliver(1) = 1; queued(4) = 1; kinds() = 4",
                 "read(0, 4); deliver(0); deliver(0); write(1, 4, 7); deliver(0) = 1; deliver(0) = 2; queued(4) = 0; "
                         + "owner(4) = 1; kinds() = 10 5",
-                "write(0, 5, 1); deliver(0); write(1, 4, 7); deliver(1) = 2; queued(4) = 0; queued(5) = 0; owner(4) = 1");
+                "write(0, 5, 1); deliver(0); write(1, 4, 7); deliver(1) = 2; queued(4) = 0; queued(5) = 0; "
+                        + "owner(4) = 1");
     }
 
     private static void aBusyDirectoryQueuesPut() {
@@ -170,22 +172,37 @@ final class MessageBoundsTest {
                 count++;
             }
         }
-        boolean isForwarded = owner != -1 && owner != writer;
-        String answer = owner == -1 ? "5 6 -1 " + writer : owner == writer ? "6 6 -1 " + writer : "9 6 -1 " + owner;
-        run.append("message(").append(count).append(") = ").append(answer).append(";");
-        run.append("messageCount() = ").append(count + 1).append(";");
         String told = run.toString();
-        runs.hold("let the count be the number of sharers other than c and other than the owner. INVALIDATE is sent "
-                + "to each of these sharers, in ascending order. Then, if there is an owner other than c, "
-                + "FORWARD_MODIFIED is sent to it; if c is the owner, GRANT is sent to c; if there is none, DATA is "
-                + "sent to c.", told);
+        runs.hold("let the count be the number of sharers other than c and other than the owner. INVALIDATE with the "
+                + "requester c is sent to each of these sharers, in ascending order.", told);
+        getModifiedIsAnswered(told, count, owner, writer);
         runs.hold("Then c is the owner, there are no sharers, and the directory is busy with the line.",
                 told + "owner(6) = " + writer + "; sharers(6) = 0; isBusy(6) = true");
-        runs.hold("with the requester c; with the requester c and the count; GRANT with the count; DATA with the count",
-                told + "settle(50) = " + (2 * count + (isForwarded ? 3 : 2)) + "; openLine(" + writer + ") = -1;"
-                        + "state(" + writer + ", 6) = 3; value(" + writer + ", 6) = 5; isBusy(6) = false; state("
-                        + (writer + 1) % 4 + ", 6) = 0; state(" + (writer + 2) % 4 + ", 6) = 0; state("
-                        + (writer + 3) % 4 + ", 6) = 0");
+    }
+
+    private static void getModifiedIsAnswered(String told, int count, int owner, int writer) {
+        String answered = told + "messageCount() = " + (count + 1) + "; message(" + count + ") = ";
+        int messages = 2 * count + 2;
+        if (owner == -1) {
+            runs.hold("if there is none, DATA with the value of the memory and the count is sent to c.",
+                    answered + "5 6 -1 " + writer + writtenAfter(messages, writer));
+        } else if (owner == writer) {
+            runs.hold("if c is the owner, GRANT with the count is sent to c;",
+                    answered + "6 6 -1 " + writer + writtenAfter(messages, writer));
+        } else {
+            runs.hold("Then, if there is an owner other than c, FORWARD_MODIFIED with the requester c and the count is "
+                    + "sent to it;", answered + "9 6 -1 " + owner + writtenAfter(messages + 1, writer));
+        }
+    }
+
+    /** That all ends well tells that the requesters and the counts were right. */
+    private static String writtenAfter(int messages, int writer) {
+        StringBuilder run = new StringBuilder("; settle(50) = ").append(messages).append("; isBusy(6) = false");
+        run.append("; openLine(").append(writer).append(") = -1; value(").append(writer).append(", 6) = 5");
+        for (int cache = 0; cache < 4; cache++) {
+            run.append("; state(").append(cache).append(", 6) = ").append(cache == writer ? 3 : 0);
+        }
+        return run.toString();
     }
 
     private static void getModifiedCountsWhoHasVanished() {
@@ -246,7 +263,8 @@ final class MessageBoundsTest {
         String putWaits = "write(0, 1, 5); settle(9); read(1, 1); deliver(0); evict(0, 1) = 3; deliver(1) = 1; "
                 + "queued(1) = 1; deliver(0); deliver(0); kinds() = 4;";
         runs.hold(sentence + ": one GET waits",
-                readAndOneWaits + "deliver(0) = 1; queued(1) = 0; message(0) = 5 1 -1 1; sharers(1) = 3; isBusy(1) = true");
+                readAndOneWaits + "deliver(0) = 1; queued(1) = 0; message(0) = 5 1 -1 1; sharers(1) = 3; "
+                        + "isBusy(1) = true");
         runs.hold(sentence + ": two GETs wait",
                 "read(2, 1); deliver(0); read(0, 1); read(1, 1); deliver(1); deliver(1); queued(1) = 2; deliver(0); "
                         + "deliver(0) = 1; queued(1) = 1; message(0) = 5 1 -1 0; sharers(1) = 5; isBusy(1) = true; "
@@ -364,7 +382,8 @@ final class MessageBoundsTest {
         runs.hold("If the line is in the cache MODIFIED, it becomes OWNED.",
                 "write(0, 6, 7); settle(9); read(1, 6); deliver(0); state(0, 6) = 3; deliver(0); state(0, 6) = 2; "
                         + "value(0, 6) = 7",
-                "write(0, 6, 7); settle(9); read(1, 6); settle(9); read(2, 6); deliver(0); state(0, 6) = 2; deliver(0); "
+                "write(0, 6, 7); settle(9); read(1, 6); settle(9); read(2, 6); deliver(0); state(0, 6) = 2; "
+                        + "deliver(0); "
                         + "state(0, 6) = 2; value(0, 6) = 7",
                 "write(0, 6, 7); settle(9); evict(0, 6); read(1, 6); deliver(1); deliver(1); state(0, 6) = 0",
                 "write(0, 6, 7); settle(9); write(0, 7, 8); settle(9); read(1, 6); settle(9); state(0, 7) = 3");
@@ -423,6 +442,15 @@ final class MessageBoundsTest {
                         + "kinds() = 5 1 7; openLine(1) = 6; settle(50); latestRead(1) = 5; state(0, 6) = 2",
                 readers(2, 6) + "write(1, 6, 3); write(0, 6, 5); deliver(1); deliver(1); state(1, 6) = 0; "
                         + "openLine(1) = 6; kinds() = 2 5 7; settle(50); value(1, 6) = 3; owner(6) = 1");
+    }
+
+    private static void invalidateLeavesTheVictimBuffer() {
+        String hold = "write(1, 7, 5); settle(9); write(1, 8, 5); settle(9);" + readers(2, 6);
+        String invalidated = "write(0, 6, 5); settle(9); state(1, 6) = 0;";
+        runs.hold("INVALIDATE: if the line is in the cache SHARED, it is removed from it",
+                "setRoom(1, 3, 0);" + hold + invalidated + "evict(1, 7) = throws IllegalStateException",
+                "setRoom(1, 3, 1);" + hold + invalidated + "evict(1, 7) = 3; "
+                        + "evict(1, 8) = throws IllegalStateException");
     }
 
     private static void putDone() {

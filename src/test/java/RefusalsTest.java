@@ -101,7 +101,8 @@ final class RefusalsTest {
             "setRoom(4, 1, 2)" + NO_INDEX, "read(0, 4)" + BAD_STATE, "read(0, 3)" + BAD_STATE, "read(0, 7)" + BAD_STATE,
             "read(3, 16)" + NO_INDEX, "write(0, 4, 1)" + BAD_STATE, "write(1, 5, 1)" + BAD_STATE,
             "write(3, 1, 10000)" + BAD_ARGUMENT, "write(-1, 1, 1)" + NO_INDEX, "evict(0, 4)" + BAD_STATE,
-            "evict(0, 3)" + NO_ELEMENT, "evict(0, -1)" + NO_INDEX, "state(0, 16)" + NO_INDEX, "value(0, 3)" + NO_ELEMENT,
+            "evict(0, 3)" + NO_ELEMENT, "evict(0, -1)" + NO_INDEX, "state(0, 16)" + NO_INDEX, "value(0, "
+                    + "3)" + NO_ELEMENT,
             "value(4, 3)" + NO_INDEX, "victimValue(0, 16)" + NO_INDEX, "openLine(4)" + NO_INDEX,
             "latestRead(-1)" + NO_INDEX, "lineAt(0, 1)" + NO_ELEMENT, "lineAt(4, 0)" + NO_INDEX, "owner(16)" + NO_INDEX,
             "sharers(-1)" + NO_INDEX, "isBusy(16)" + NO_INDEX, "queued(-1)" + NO_INDEX, "memory(16)" + NO_INDEX,
