@@ -103,64 +103,52 @@ final class CountBoundsTest {
         String sentence = "\"for each line its value in the memory, its owner, its sharers, 1 if the directory is busy "
                 + "with it, else 0, the number of messages in its queue, and for each cache the state of the line, its "
                 + "value, and its value in the victim buffer\": ";
-        CacheDirectory x = new CacheDirectory();
-        x.write(0, 0, 4);
-        x.write(3, 15, 9999);
-        x.settle(1000);
-        checks.same(sentence + "the first and the last line and cache", x.digest(), digestOf(x));
-        x.read(1, 15);
-        x.read(2, 15);
-        x.settle(2);
-        checks.same(sentence + "a busy line, one message waits", x.digest(), digestOf(x));
-        x.evict(3, 15);
-        checks.same(sentence + "a victim", x.digest(), digestOf(x));
-        x.settle(1000);
-        checks.same(sentence + "a memory, sharers and no owner", x.digest(), digestOf(x));
+        String two = "write(0, 0, 4); write(3, 15, 9999); settle(1000);";
+        checkDigest(sentence + "the first and the last line and cache", two);
+        String busy = two + "read(1, 15); read(2, 15); settle(2);";
+        checkDigest(sentence + "a busy line, one message waits", busy);
+        checkDigest(sentence + "a victim", busy + "evict(3, 15)");
+        checkDigest(sentence + "a memory, sharers and no owner", busy + "evict(3, 15); settle(1000)");
     }
 
     private static void promise29EachCache() {
         String sentence = "\"for each cache the line of its open request\": ";
         for (int cache = 0; cache < 4; cache++) {
             for (int line : new int[] {0, 15}) {
-                CacheDirectory x = new CacheDirectory();
-                x.read(cache, line);
-                checks.same(sentence + cache + ", " + line, x.digest(), digestOf(x));
+                checkDigest(sentence + cache + ", " + line, "read(" + cache + ", " + line + ")");
             }
         }
     }
 
     private static void promise29EachMessage() {
         String sentence = "\"for each message on the way its kind, line, sender and receiver\": ";
-        CacheDirectory x = new CacheDirectory();
-        x.write(0, 0, 4);
-        for (String step : new String[] {"GET_MODIFIED", "DATA", "DONE", "none"}) {
-            checks.same(sentence + step, x.digest(), digestOf(x));
-            x.settle(1);
+        String[] steps = {"GET_MODIFIED", "DATA", "DONE", "none"};
+        for (int i = 0; i < steps.length; i++) {
+            checkDigest(sentence + steps[i], "write(0, 0, 4); settle(" + i + ")");
         }
-        x.read(1, 0);
-        x.write(2, 15, 3);
-        x.read(3, 0);
-        for (int i = 0; x.messageCount() > 0 && i < 20; i++) {
-            checks.same(sentence + x.messageCount() + " messages", x.digest(), digestOf(x));
-            x.deliver(x.messageCount() - 1);
+        String race = "write(0, 0, 4); settle(9); read(1, 0); write(2, 15, 3); read(3, 0);";
+        for (int i = 0; i < 20 && Runs.after(race).messageCount() > 0; i++) {
+            checkDigest(sentence + "after " + race, race);
+            race += "deliver(" + (Runs.after(race).messageCount() - 1) + ");";
         }
     }
 
     private static void promise29WhatIsNotThere() {
         String sentence = "\"its value (-1 if it is not in the cache), and its value in the victim buffer (-1 if it is "
                 + "not there)\": ";
-        CacheDirectory x = new CacheDirectory();
-        x.write(0, 7, 0);
-        x.settle(9);
-        long held = x.digest();
-        checks.same(sentence + "0 in the cache", held, digestOf(x));
-        x.evict(0, 7);
-        long victim = x.digest();
-        checks.same(sentence + "0 in the victim buffer", victim, digestOf(x));
-        x.settle(9);
-        long gone = x.digest();
-        checks.same(sentence + "in neither", gone, digestOf(x));
-        checks.same(sentence + "in neither, as in a new object", gone, new CacheDirectory().digest());
+        String held = "write(0, 7, 0); settle(9);";
+        checkDigest(sentence + "0 in the cache", held);
+        checkDigest(sentence + "0 in the victim buffer", held + "evict(0, 7)");
+        String gone = held + "evict(0, 7); settle(9)";
+        checkDigest(sentence + "in neither", gone);
+        checks.same(sentence + "in neither, as in a new object", Runs.after(gone).digest(),
+                new CacheDirectory().digest());
+    }
+
+    /** Plays the run on an object of its own, for digestOf takes more than half of the 512 calls of one. */
+    private static void checkDigest(String what, String run) {
+        CacheDirectory x = Runs.after(run);
+        checks.same(what, x.digest(), digestOf(x));
     }
 
     /** d exceeds 64 bits a few numbers after 47; before the last of them it has wrapped hundreds of times. */

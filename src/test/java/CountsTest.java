@@ -136,6 +136,14 @@ final class CountsTest {
     }
 
     private static void promise29DigestInARace() {
+        for (int deliveries = 0; deliveries <= 12; deliveries++) {
+            CacheDirectory x = raced(deliveries);
+            checks.same("29: after " + deliveries + " deliveries", x.digest(), digestOf(x));
+        }
+    }
+
+    /** Made anew for each look, for digestOf takes more than half of the 512 calls of an object. */
+    private static CacheDirectory raced(int deliveries) {
         CacheDirectory x = new CacheDirectory();
         Checks.writeThrough(x, 0, 15, 9999);
         x.evict(0, 15);
@@ -143,14 +151,13 @@ final class CountsTest {
         Checks.writeThrough(x, 2, 0, 3);
         x.write(1, 15, 2);
         x.read(3, 15);
-        for (int i = 0; i < 12 && x.messageCount() > 0; i++) {
-            checks.same("29: after " + i + " deliveries", x.digest(), digestOf(x));
+        for (int i = 0; i < deliveries && x.messageCount() > 0; i++) {
             x.deliver((i * 5 + 1) % x.messageCount());
         }
-        checks.same("29: at last", x.digest(), digestOf(x));
+        return x;
     }
 
-    static long digestOf(CacheDirectory x) {
+    private static long digestOf(CacheDirectory x) {
         long d = 47;
         for (int line = 0; line < 16; line++) {
             d = d * 31 + x.memory(line);

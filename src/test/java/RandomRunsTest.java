@@ -8,6 +8,7 @@ final class RandomRunsTest {
     private static final int RUNS = 1000;
     private static final int CALLS = 512;
     private static final int DIGEST_EVERY = 7;
+    private static final int LOOKS_AT_LAST = 17;
     private static final int[] WRONG = {-1, Integer.MIN_VALUE, Integer.MAX_VALUE, 1001, 10000, 16, 4};
 
     private static final Checks checks = new Checks("RandomRunsTest");
@@ -36,25 +37,30 @@ final class RandomRunsTest {
         for (int cache = 0; cache < 4; cache++) {
             both(calls, 0, cache, 1 + random.nextInt(4), random.nextInt(3));
         }
-        for (int i = 4; i < CALLS; i++) {
-            String[] outcomes = both(calls, kindOfCall(), argument(4), argument(lines), argument(10000));
-            boolean sameDigest = i % DIGEST_EVERY != 0 || x.digest() == model.digest();
-            if (!outcomes[0].equals(outcomes[1]) || !sameDigest) {
-                checks.same("seed " + seed + ": " + calls + " with digest " + x.digest(), outcomes[0],
-                        outcomes[1] + " with digest " + model.digest());
+        for (int made = 4; made < CALLS - LOOKS_AT_LAST; made++) {
+            boolean isDigest = made % DIGEST_EVERY == 0;
+            String[] outcomes = isDigest ? digests(calls)
+                    : both(calls, kindOfCall(), argument(4), argument(lines), argument(10000));
+            if (!outcomes[0].equals(outcomes[1])) {
+                checks.same("seed " + seed + ": " + calls, outcomes[0], outcomes[1]);
                 return;
             }
         }
-        checks.same("seed " + seed, true, true);
+        checks.same("seed " + seed + ": the digest at last", x.digest(), model.digest());
         for (int line = 0; line < 16; line++) {
             checks.same("seed " + seed + ": is in order", x.isInOrder(line), true);
         }
     }
 
+    private String[] digests(StringBuilder calls) {
+        calls.append(" digest()");
+        return pair(() -> x.digest(), () -> model.digest());
+    }
+
     /** Requests and deliveries make the races; the other calls only look. */
     private int kindOfCall() {
         int chance = random.nextInt(100);
-        return chance < 20 ? 1 : chance < 40 ? 2 : chance < 50 ? 3 : chance < 80 ? 4 : 5 + random.nextInt(22);
+        return chance < 20 ? 1 : chance < 40 ? 2 : chance < 50 ? 3 : chance < 80 ? 4 : 5 + random.nextInt(23);
     }
 
     private int argument(int bound) {
@@ -62,7 +68,8 @@ final class RandomRunsTest {
     }
 
     private String[] both(StringBuilder calls, int kind, int cache, int line, int value) {
-        int index = x.messageCount() > 0 && value >= 0 && value < 10000 ? value % x.messageCount() : value;
+        int onTheWay = model.messageCount();
+        int index = onTheWay > 0 && value >= 0 && value < 10000 ? value % onTheWay : value;
         int few = value > 10 && value < 10000 ? value % 10 : value;
         calls.append(" ").append(kind).append("(").append(cache).append(", ").append(line).append(", ")
                 .append(value).append(")");
@@ -91,8 +98,8 @@ final class RandomRunsTest {
             case 21 -> pair(() -> x.messageTo(index), () -> model.messageTo(index));
             case 22 -> pair(() -> x.hits(cache), () -> model.hits(cache));
             case 23 -> pair(() -> x.misses(cache), () -> model.misses(cache));
-            case 24 -> pair(() -> x.writebacks() * 1000 + x.lateWritebacks(),
-                    () -> model.writebacks() * 1000 + model.lateWritebacks());
+            case 24 -> pair(() -> x.writebacks(), () -> model.writebacks());
+            case 26 -> pair(() -> x.lateWritebacks(), () -> model.lateWritebacks());
             default -> pair(() -> x.isInOrder(line), () -> model.isInOrder(line));
         };
     }

@@ -2,6 +2,7 @@ import java.lang.reflect.InvocationTargetException;
 import java.lang.reflect.Method;
 import java.lang.reflect.Modifier;
 import java.util.ArrayList;
+import java.util.Arrays;
 import java.util.List;
 import java.util.Map;
 import java.util.TreeMap;
@@ -55,14 +56,21 @@ final class Runs {
         return call.replace("?", String.valueOf(argument));
     }
 
+    /** A new object upon which the calls of the run have been made; what they answered is not looked at. */
+    static CacheDirectory after(String run) {
+        return replay(steps(run).stream().map(step -> step.split(" = ")[0]).toList());
+    }
+
     private void play(String sentence, String run) {
         CacheDirectory x = new CacheDirectory();
         List<String> taken = new ArrayList<>();
-        for (String step : run.split("[;\n]")) {
-            if (!step.isBlank()) {
-                playStep(sentence, x, taken, step.strip().split(" = ", 2));
-            }
+        for (String step : steps(run)) {
+            playStep(sentence, x, taken, step.split(" = ", 2));
         }
+    }
+
+    private static List<String> steps(String run) {
+        return Arrays.stream(run.split("[;\n]")).map(String::strip).filter(step -> !step.isEmpty()).toList();
     }
 
     private void playStep(String sentence, CacheDirectory x, List<String> taken, String[] callAndDue) {
